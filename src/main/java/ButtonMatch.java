@@ -31,18 +31,11 @@ public final class ButtonMatch {
     // ---- 1 the shop
 
     public int shop(int sheet, int lane, int i, int n) {
-        fault = 0;
-        if (!isSheet(sheet)) {
-            return UNKNOWN;
-        }
-        if (!isLane(lane)) {
-            return OUTSIDE;
+        int refusal = refusalOfRow(sheet, lane, i, n, true);
+        if (refusal != 0) {
+            return refusal;
         }
         Sheet row = sheets[sheet];
-        int taking = row.faultOfTaking(lane, i, n);
-        if (taking != 0) {
-            return faulted(taking);
-        }
         int wrongPlace = Text.firstFault(row, i, n);
         if (wrongPlace != Text.NO_FAULT) {
             return -100 - wrongPlace;
@@ -117,48 +110,36 @@ public final class ButtonMatch {
     // ---- 2 searches
 
     public int search(int sheet, int lane, int i, int n, int what) {
-        fault = 0;
-        if (!isSheet(sheet)) {
-            return UNKNOWN;
-        }
-        if (!isLane(lane) || n < 0 || n > LONGEST_SEARCH || what < 0 || what > 2) {
-            return OUTSIDE;
-        }
-        Sheet row = sheets[sheet];
-        int taking = row.faultOfTaking(lane, i, n);
-        if (taking != 0) {
-            return faulted(taking);
+        boolean inside = n >= 0 && n <= LONGEST_SEARCH && what >= 0 && what <= 2;
+        int refusal = refusalOfRow(sheet, lane, i, n, inside);
+        if (refusal != 0) {
+            return refusal;
         }
         if (!shop.isOpen()) {
             return STATE;
         }
+        Sheet row = sheets[sheet];
         return shop.hasAllTubes(row, i, n) ? shop.searched(row, i, n, what) : UNKNOWN;
     }
 
     public int sieve(int sheet, int lane, int i, int n, int what) {
-        fault = 0;
-        if (!isSheet(sheet)) {
-            return UNKNOWN;
-        }
-        if (!isLane(lane) || n < 0 || n > SIGN_COUNT || what < 0 || what > 1) {
-            return OUTSIDE;
-        }
-        Sheet row = sheets[sheet];
-        int taking = row.faultOfTaking(lane, i, n);
-        if (taking != 0) {
-            return faulted(taking);
+        boolean inside = n >= 0 && n <= SIGN_COUNT && what >= 0 && what <= 1;
+        int refusal = refusalOfRow(sheet, lane, i, n, inside);
+        if (refusal != 0) {
+            return refusal;
         }
         if (!shop.isOpen()) {
             return STATE;
         }
-        return areSigns(row, i, n) ? shop.sieved(row, i, n, what) : OUTSIDE;
+        Sheet row = sheets[sheet];
+        return areSigns(row, i, n) ? shop.sieved(row.cells, i, n, what) : OUTSIDE;
     }
 
     // ---- 3 orders, places
 
     /**
-     * From TUBE 0 each next one is 1 or more apart, and 0, 1, 2 .. is the only order in which it is always 1:
-     * so no order is as quick. The k-th is looked at behind 2k + 1 SECONDS, which together are a square.
+     * She stands at TUBE 0; to each other one she goes 1 or more, and 0, 1, 2 .. is the only order by which it is
+     * always 1: so no other is as quick. The k-th is looked at by 2k + 1 SECONDS, which together are a square.
      */
     public int quick(int k) {
         if (k < -1) {
@@ -181,12 +162,15 @@ public final class ButtonMatch {
             return STATE;
         }
         int best = 0;
+        int least = shop.secondsBySigns(best);
         for (int order = SIGN_COUNT; order + SIGN_COUNT <= SIGN_ORDERS.length; order += SIGN_COUNT) {
-            if (shop.secondsOfOrder(order) < shop.secondsOfOrder(best)) {
+            int seconds = shop.secondsBySigns(order);
+            if (seconds < least) {
                 best = order;
+                least = seconds;
             }
         }
-        return k == -1 ? shop.secondsOfOrder(best) : SIGN_ORDERS[best + k];
+        return k == -1 ? least : SIGN_ORDERS[best + k];
     }
 
     public int sew(int place, int what) {
@@ -461,6 +445,19 @@ public final class ButtonMatch {
     private int faulted(int which) {
         fault = which;
         return -10 - which;
+    }
+
+    /** What a call that goes by n cells of a SHEET answers if it does not come to them; 0 if it does. */
+    private int refusalOfRow(int sheet, int lane, int i, int n, boolean othersInside) {
+        fault = 0;
+        if (!isSheet(sheet)) {
+            return UNKNOWN;
+        }
+        if (!isLane(lane) || !othersInside) {
+            return OUTSIDE;
+        }
+        int taking = sheets[sheet].faultOfTaking(lane, i, n);
+        return taking == 0 ? 0 : faulted(taking);
     }
 
     private void mark(int body) {
@@ -743,24 +740,18 @@ public final class ButtonMatch {
             return kept;
         }
 
-        int sieved(Sheet row, int i, int n, int what) {
+        int sieved(int[] signs, int from, int n, int what) {
             int left = allAsSet();
             int seconds = 0;
-            for (int m = 0; m < n; m++) {
+            for (int m = 0; m < n && from >= 0 && from + m < signs.length; m++) {
                 seconds += Integer.bitCount(left);
-                left = sifted(left, row.read(i + m));
+                left = sifted(left, signs[from + m]);
             }
             return what == 0 ? seconds : left;
         }
 
-        int secondsOfOrder(int order) {
-            int left = allAsSet();
-            int seconds = 0;
-            for (int m = order; m < order + SIGN_COUNT && m < SIGN_ORDERS.length; m++) {
-                seconds += Integer.bitCount(left);
-                left = sifted(left, SIGN_ORDERS[m]);
-            }
-            return seconds;
+        int secondsBySigns(int order) {
+            return sieved(SIGN_ORDERS, order, SIGN_COUNT, 0);
         }
 
         private int harm(Tube tube, int place, int missing) {

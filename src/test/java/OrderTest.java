@@ -9,6 +9,7 @@ public final class OrderTest {
         sets();
         tins();
         halves();
+        fewerTubesThanBefore();
         withoutShop();
         c.finish();
     }
@@ -53,6 +54,8 @@ public final class OrderTest {
         c.row("HOLES leave none", signed(Coats.with("b3540000000;t35200;t35200")), 2, 2, 0, 1);
         c.row("SIZE leaves one, then COLOUR none",
                 signed(Coats.with("b3540000000;t36400;t37400;t15400;t38400")), 4 + 1, 1, 0, 2);
+        c.row("HOLES leave one, then SIZE none",
+                signed(Coats.with("b3540000000;t35200;t35200;t36400;t15200")), 4 + 1, 2, 1, 0);
         ButtonMatch x = Coats.with("b3540000000;s25400;o36400;t34400;t35200");
         c.row("by how they LOOK", signed(x), 4 + 3 + 2, 1, 2, 0);
         x.remember(1, 0);
@@ -137,10 +140,24 @@ public final class OrderTest {
         c.due("all ALIKE", x.half(), 1);
         ButtonMatch even = Coats.with("b3540000000;t35410;t00210");
         c.due("one half at least", even.half(), 1);
-        even.stock(0, 0);
         even.stock(1, 0);
+        c.due("by all of them", even.half(), 1);
+        even.stock(0, 0);
         c.due("no button", even.half(), ButtonMatch.NONE);
         share(even, 3, 0, 1);
+    }
+
+    /** Of TUBES that an earlier SHOP had nothing is left. */
+    private static void fewerTubesThanBefore() {
+        ButtonMatch x = Coats.with("b3541111110;t35490;t35490;t35490");
+        c.due("a smaller SHOP", Coats.told(x, "b3541111110;t34413"), 1);
+        c.row("PUT", sewn(x, 0), 4, 0, 0);
+        c.row("SET", new long[] {x.set(1), x.set(2)}, 3, -9);
+        c.row("SIGNS", signed(x), 1, 1, 0, 2);
+        share(x, 9, 0, 1);
+        c.due("HALF", x.half(), ButtonMatch.NONE);
+        c.due("QUICK", x.quick(1), ButtonMatch.NONE);
+        c.due("buttons", x.many(1), 1);
     }
 
     private static void withoutShop() {

@@ -85,6 +85,7 @@ public final class SheetTest {
         lost(x, "behind", x.cell(0, 2, 1), 3);
         lost(x, "ahead", x.cell(0, -1, 1), 3);
         lost(x, "as far as can be", x.cell(0, Integer.MAX_VALUE, 1), 3);
+        lost(x, "a refusal behind a fault", x.cell(4, 0, 0), 0);
         c.due("cell", x.cell(0, 1, 1), 0);
         c.due("no fault", x.fault(), 0);
     }
