@@ -206,10 +206,7 @@ public final class ButtonMatch {
     // Each of the last four puts other values in place of one alone, asks the READINGS, and puts back what it was.
 
     public int reading(int t, boolean alike) {
-        if (!shop.hasTube(t)) {
-            return UNKNOWN;
-        }
-        return readings.count < MOST_READINGS ? readings.add(t, alike) : FULL;
+        return shop.hasTube(t) ? readings.add(t, alike) : UNKNOWN;
     }
 
     public int back(int k) {
@@ -849,13 +846,16 @@ public final class ButtonMatch {
         private final boolean[] alikes = new boolean[MOST_READINGS];
         private int count = 0;
 
+        /** Answers how many there were ahead of it, which is its number, or FULL. */
         int add(int t, boolean alike) {
-            if (count < MOST_READINGS) {
-                tubes[count] = t;
-                alikes[count] = alike;
-                count++;
+            if (count >= MOST_READINGS) {
+                return FULL;
             }
-            return count;
+            int number = count;
+            tubes[number] = t;
+            alikes[number] = alike;
+            count = number + 1;
+            return number;
         }
 
         boolean fit(Shop shop) {

@@ -524,7 +524,7 @@ final class Model {
             return FULL;
         }
         readings.add(new Reading(t, alike));
-        return readings.size();
+        return readings.size() - 1;
     }
 
     long back(int k) {

@@ -17,9 +17,9 @@ public final class ReadingTest {
 
     private static void numbersAndBack() {
         ButtonMatch x = Coats.with(Coats.FIVE);
-        for (int number = 1; number <= 8; number++) {
+        for (int number = 0; number < 8; number++) {
             c.due("reading", x.reading(number % 5, true), number);
-            c.due("many", x.many(2), number);
+            c.due("many", x.many(2), number + 1);
         }
         c.due("FULL", x.reading(0, true), ButtonMatch.FULL);
         c.due("FULL, but no TUBE", x.reading(5, true), ButtonMatch.UNKNOWN);
@@ -28,9 +28,15 @@ public final class ReadingTest {
         c.due("back -1", x.back(-1), ButtonMatch.OUTSIDE);
         c.due("back 0", x.back(0), 8);
         c.due("back 3", x.back(3), 5);
-        c.due("numbered by how many there are", x.reading(0, true), 6);
+        c.due("numbered by how many there are", x.reading(0, true), 5);
         c.due("back 6", x.back(6), 0);
         c.due("back 1 of none", x.back(1), ButtonMatch.OUTSIDE);
+        c.due("the first behind all were taken back", x.reading(4, false), 0);
+        c.due("the next", x.reading(4, false), 1);
+        c.due("a refused one has no number", x.reading(5, false), ButtonMatch.UNKNOWN);
+        c.due("behind the refused one", x.reading(3, true), 2);
+        Coats.told(x, Coats.FIVE);
+        c.due("the first of the next SHOP", x.reading(2, true), 0);
     }
 
     private static long[] memories(ButtonMatch x) {
