@@ -16,6 +16,14 @@ final class Checks {
         }
     }
 
+    void same(String call, String got, String want) {
+        made++;
+        if (!got.equals(want)) {
+            wrong++;
+            System.out.println(test + ": " + call + ": " + got + ", due is " + want);
+        }
+    }
+
     /** The answers of a call for the numbers from .. on, one behind another. */
     void row(String call, long[] got, long... want) {
         due(call + ", how many", got.length, want.length);
