@@ -41,7 +41,7 @@ final class Asked {
         try {
             return ((Number) method.invoke(x, arguments)).longValue();
         } catch (ReflectiveOperationException e) {
-            throw new IllegalStateException(call, e);
+            throw new IllegalStateException(call, e.getCause() == null ? e : e.getCause());
         }
     }
 

@@ -16,7 +16,8 @@ final class Document {
 
     private static final String TERMS = "Terms", AHEAD = "What it is";
     private static final Pattern IN_A_PROMISE = Pattern.compile("UNKNOWN|OUTSIDE|STATE|FULL|NONE|LOST|CAST|NULL|INDEX"
-            + "|SIZE(?=[.:])|\\.\\.|fewer|never|0: |-100 less|as they were|as it was|nothing|ahead of any|without a SHOP");
+            + "|SIZE(?=[.:])|\\.\\.|fewer|never|0: |-100 less|as they were|as it was|nothing|ahead of any"
+            + "|without a SHOP");
     private static final Pattern IN_THE_TERMS = Pattern.compile("UNKNOWN|OUTSIDE|STATE|FULL|NULL|CAST|INDEX|SIZE \\(a"
             + "|NONE|LOST|\\.\\.|at most|at least|at first|no more|too soon|seventh|wraps|is cut|or more|of several"
             + "|but once|come again|not put back|fewest|has them|above 0|changes? nothing|anew|in the order|below 0"

@@ -7,7 +7,8 @@ import java.util.Random;
 
 /** All promises: long runs of calls, each answered by the class and by the Model; the same calls in every run. */
 public final class ModelTest {
-    private static final int RUNS = 3000, CALLS = 512;
+    /** Behind each call fault() is asked, too: together as many as an object is used for. */
+    private static final int RUNS = 6000, CALLS = 256;
     private static final String[] NAMES = {"shop", "wanted", "seen", "ofTube", "remember", "near", "stock", "far",
         "search", "sieve", "quick", "signs", "sew", "set", "tin", "half", "reading", "back", "memories", "kinds",
         "colours", "nears", "sheet", "lose", "put", "cell", "copy", "tell", "rattle", "as", "trace", "fault", "many"};

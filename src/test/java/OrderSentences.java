@@ -68,7 +68,7 @@ final class OrderSentences {
             signs(3) = OUTSIDE
             signs(-2) = OUTSIDE
             """);
-        s.of(13, "SIGNS: the order of all three by which a SIEVING takes the least SECONDS: of several the first as a row.");
+        s.of(13, "the order of all three by which a SIEVING takes the least SECONDS: of several the first as a row.");
         signRow("b3540000000;t35400;t35400", 6, 0, 1, 2);
         signRow("b3540000000;t35200;t35200", 2, 2, 0, 1);
         signRow("b3540000000;t36400;t36400", 2, 1, 0, 2);
@@ -137,6 +137,7 @@ final class OrderSentences {
         s.run(Given.shop("b3541111111;t45410;t45410"), "sew(4, 0) = 1\n sew(4, 1) = 0\n sew(4, 2) = 4");
         s.run(Given.shop("b3549190991;t45410"), "sew(1, 0) = 1\n sew(1, 2) = 1\n sew(5, 2) = 3");
         s.run(Given.shop("b3540999911;t35413;t55412"), "sew(5, 0) = 3\n sew(5, 1) = 0\n sew(5, 2) = 5");
+        s.run(Given.shop("b3541111111;t45410;t45410;t45410;t45410;t45410;t35410"), "sew(0, 0) = 0\n sew(0, 1) = 5");
         s.of(14, "HARM: how FAR it is from the WANTED one itself (by how it LOOKS)");
         s.run(Given.shop("b3549999999;s35410;s25411;o36412"), """
             remember(1, 0)
@@ -179,7 +180,7 @@ final class OrderSentences {
             set(9) = 81
             stock(2, 8)
             set(9) = NONE
-            """);
+            """).run(Given.shop("b3540000000;t35419;t35419;t35419;t35419;t35419;t35491"), "set(1) = 1\n set(9) = 9");
     }
 
     private void tin() {
@@ -244,7 +245,12 @@ final class OrderSentences {
             stock(0, 9)
             tin(9, 0) = 68181125
             tin(9, 1) = 81814404
-            """).run(Given.shop("b3540000000;t35410;t00210"), "tin(1, 0) = 1\n tin(1, 1) = 2\n tin(2, 0) = 1\n tin(2, 1) = 1");
+            """).run(Given.shop("b3540000000;t35410;t00210"), """
+            tin(1, 0) = 1
+            tin(1, 1) = 2
+            tin(2, 0) = 1
+            tin(2, 1) = 1
+            """);
     }
 
     private void half() {

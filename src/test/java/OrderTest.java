@@ -9,8 +9,6 @@ public final class OrderTest {
         sets();
         tins();
         halves();
-        fewerTubesThanBefore();
-        withoutShop();
         c.finish();
     }
 
@@ -145,26 +143,5 @@ public final class OrderTest {
         even.stock(0, 0);
         c.due("no button", even.half(), ButtonMatch.NONE);
         share(even, 3, 0, 1);
-    }
-
-    /** Of TUBES that an earlier SHOP had nothing is left. */
-    private static void fewerTubesThanBefore() {
-        ButtonMatch x = Coats.with("b3541111110;t35490;t35490;t35490");
-        c.due("a smaller SHOP", Coats.told(x, "b3541111110;t34413"), 1);
-        c.row("PUT", sewn(x, 0), 4, 0, 0);
-        c.row("SET", new long[] {x.set(1), x.set(2)}, 3, -9);
-        c.row("SIGNS", signed(x), 1, 1, 0, 2);
-        share(x, 9, 0, 1);
-        c.due("HALF", x.half(), ButtonMatch.NONE);
-        c.due("QUICK", x.quick(1), ButtonMatch.NONE);
-        c.due("buttons", x.many(1), 1);
-    }
-
-    private static void withoutShop() {
-        ButtonMatch x = new ButtonMatch();
-        c.row("STATE", new long[] {x.quick(0), x.signs(0), x.sew(0, 0), x.set(1), x.half()}, -3, -3, -3, -3, -3);
-        c.row("ahead of STATE", new long[] {x.quick(-2), x.signs(3), x.sew(6, 0), x.sew(0, 3), x.set(0)},
-                -1, -2, -1, -2, -2);
-        c.due("tin", x.tin(0, 0), ButtonMatch.LOST);
     }
 }

@@ -186,8 +186,8 @@ final class PartSentences {
     }
 
     private void refusals() {
-        s.of(33, "REFUSALS, in the order in which a call's line tells them: UNKNOWN (there is no such TUBE, PLACE, SHEET, "
-                + "place of a row), OUTSIDE (another number is not as told), STATE (as told), FULL");
+        s.of(33, "REFUSALS, in the order in which a call's line tells them: UNKNOWN (there is no such TUBE, PLACE, "
+                + "SHEET, place of a row), OUTSIDE (another number is not as told), STATE (as told), FULL");
         s.run(Given.sheets(), """
             sew(6, 3) = UNKNOWN
             sew(0, 3) = OUTSIDE

@@ -39,7 +39,12 @@ final class ReadingSentences {
         for (int number = 0; number < 8; number++) {
             rows.append("reading(").append(number % 5).append(", false) = ").append(number).append('\n');
         }
-        s.run(Given.five(), rows.toString(), "many(2) = 8\n reading(0, false) = FULL\n back(8) = 0\n reading(4, true) = 0");
+        s.run(Given.five(), rows.toString(), """
+            many(2) = 8
+            reading(0, false) = FULL
+            back(8) = 0
+            reading(4, true) = 0
+            """);
         s.run(Given.five(), EIGHT, Given.shop(Given.ONE), "many(2) = 0\n reading(0, true) = 0\n reading(0, true) = 1");
     }
 

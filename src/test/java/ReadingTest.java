@@ -11,7 +11,6 @@ public final class ReadingTest {
         coloursThatFit();
         nearsThatFit();
         nothingIsChanged();
-        withoutShop();
         c.finish();
     }
 
@@ -135,11 +134,5 @@ public final class ReadingTest {
         c.due("NEAR", x.near(3), 3);
         c.due("REMEMBERED", x.remember(1, 2), 12);
         c.due("WANTED", x.wanted(0), 3);
-    }
-
-    private static void withoutShop() {
-        ButtonMatch x = new ButtonMatch();
-        c.row("without a SHOP", new long[] {x.reading(0, true), x.back(0), x.back(1), x.memories(0), x.memories(2),
-                x.kinds(0), x.colours(0), x.nears()}, -1, 0, -2, -3, -2, -1, -1, -3);
     }
 }

@@ -141,7 +141,8 @@ final class SearchSentences {
             search(0, 0, 1, 1, 0) = 6
             search(0, 0, 0, 4, 0) = 19
             """);
-        s.of(10, "It ends with the first one that is ALIKE: that is FOUND.").run(Given.five(), Given.row(0, 0, 4, 1, 0, 3), """
+        s.of(10, "It ends with the first one that is ALIKE: that is FOUND.");
+        s.run(Given.five(), Given.row(0, 0, 4, 1, 0, 3), """
             search(0, 0, 0, 4, 0) = 9
             search(0, 0, 0, 4, 1) = 1
             search(0, 0, 0, 4, 2) = 2
@@ -263,7 +264,8 @@ final class SearchSentences {
             sieve(0, 0, 0, 0, 1) = 31
             """).run(Given.shop(Given.SIX), "sheet(0, 2, 0)\n sieve(0, 2, 0, 0, 1) = 63")
             .run(Given.shop(Given.SIX), Given.shop(Given.ONE), "sheet(0, 2, 0)\n sieve(0, 2, 0, 0, 1) = 1");
-        s.of(11, "1 SECOND for each TUBE that is left, behind which those are left by which the sign LOOKS as REMEMBERED.");
+        s.of(11, "it takes 1 SECOND for each TUBE that is left, behind which those are left by which the sign LOOKS as "
+                + "REMEMBERED.");
         s.run(Given.shop("b3540000000;t35400;s25200;o36400;t34400;o35200;t15400"), Given.row(0, 0, 0, 1, 2, 0, 1), """
             sieve(0, 0, 0, 3, 0) = 14
             sieve(0, 0, 0, 3, 1) = 5

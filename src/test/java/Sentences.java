@@ -26,11 +26,15 @@ final class Sentences {
         return this;
     }
 
-    /** Rows of calls and answers on a new object. */
+    /** Rows of calls and answers on a new object; a call that throws is the end of its run, not of the test. */
     Sentences run(String... rows) {
-        Run run = new Run(checks, title);
-        for (String some : rows) {
-            run.play(some);
+        try {
+            Run run = new Run(checks, title);
+            for (String some : rows) {
+                run.play(some);
+            }
+        } catch (RuntimeException e) {
+            checks.same(title + "the run ends with", e + ", by " + e.getCause(), "its last row");
         }
         return this;
     }

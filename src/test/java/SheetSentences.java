@@ -123,7 +123,13 @@ final class SheetSentences {
             cell(0, 0, 0) = 9
             cell(0, 1, 0) = 1
             cell(0, 2, 0) = 9
-            """).run("sheet(0, 0, 60)\n put(0, 59, 9) = 1\n put(0, 60, 9) = INDEX\n sheet(0, 0, 0)\n put(0, 0, 9) = INDEX");
+            """).run("""
+            sheet(0, 0, 60)
+            put(0, 59, 9) = 1
+            put(0, 60, 9) = INDEX
+            sheet(0, 0, 0)
+            put(0, 0, 9) = INDEX
+            """);
     }
 
     private void cuts() {

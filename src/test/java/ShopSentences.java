@@ -1,3 +1,5 @@
+import java.util.List;
+
 /** Promises 1 to 9 at their boundaries: a new object, shop, wanted, seen, ofTube, remember, near, stock, far. */
 final class ShopSentences {
     private final Sentences s;
@@ -48,14 +50,17 @@ final class ShopSentences {
 
     private void callsOfAnObject() {
         s.of(1, "An object is used for at most 512 calls after it has been made");
-        ButtonMatch x = Coats.with("b3540000000;t35497");
-        int calls = 20;
+        Asked x = new Asked();
+        List<String> given = Given.shop("b3540000000;t35497").lines().toList();
+        for (String call : given) {
+            x.ask(call);
+        }
         int trace = 0;
-        for (; calls < 511; calls++) {
-            s.due("tell(0) as call " + (calls + 1), x.tell(0), 7);
+        for (int call = given.size() + 1; call < Asked.MOST_CALLS; call++) {
+            s.due("tell(0) as call " + call, x.ask("tell(0)"), 7);
             trace = 31 * trace + 1;
         }
-        s.due("trace() as call " + (calls + 1), x.trace(), trace);
+        s.due("trace() as the last call", x.ask("trace()"), trace);
     }
 
     /** SHEET 3 has a TEXT of one TUBE as a row of shorts. */
@@ -163,14 +168,14 @@ final class ShopSentences {
     /** By each good code the call answers it, less 48; each other one is the FIRST FAULT. */
     private void codes(String text, int place, String asked, String good, String bad) {
         StringBuilder codes = new StringBuilder(text);
+        String shopped = "shop(3, 0, 0, " + text.length() + ") = ";
         for (char code : good.toCharArray()) {
             codes.setCharAt(place, code);
-            s.run(Given.text(3, 0, codes.toString()), "shop(3, 0, 0, " + text.length() + ") = " + (text.length() - 11) / 7
-                    + "\n" + asked + " = " + (code - 48));
+            s.run(Given.text(3, 0, codes.toString()), shopped + (text.length() - 11) / 7, asked + " = " + (code - 48));
         }
         for (char code : bad.toCharArray()) {
             codes.setCharAt(place, code);
-            s.run(Given.text(3, 0, codes.toString()), "shop(3, 0, 0, " + text.length() + ") = " + (-100 - place));
+            s.run(Given.text(3, 0, codes.toString()), shopped + (-100 - place));
         }
     }
 
@@ -229,7 +234,8 @@ final class ShopSentences {
     }
 
     private void firstFault() {
-        s.of(2, "-100 less the FIRST FAULT.").run(Given.busy(), Given.text(3, 0, "xx" + Given.ONE.replace('b', 'x')), """
+        s.of(2, "-100 less the FIRST FAULT.");
+        s.run(Given.busy(), Given.text(3, 0, "xx" + Given.ONE.replace('b', 'x')), """
             shop(3, 0, 0, 0) = -100
             shop(3, 0, 2, 18) = -100
             """);
@@ -282,6 +288,19 @@ final class ShopSentences {
             ofTube(0, 4) = 0
             near(0) = 0
             remember(1, 1) = 0
+            """);
+        // Of TUBES that the SHOP before it had, nothing is left.
+        s.run(Given.shop("b3541111110;t35490;t35490;t35490"), Given.shop("b3541111110;t34413"), Given.row(0, 0, 1), """
+            sew(0, 0) = 4
+            sew(0, 1) = 0
+            set(1) = 3
+            set(2) = NONE
+            signs(-1) = 1
+            signs(0) = 1
+            sieve(0, 0, 0, 1, 0) = 1
+            tin(9, 0) = 0
+            half() = NONE
+            search(0, 0, 0, 1, 0) = UNKNOWN
             """);
     }
 

@@ -1,12 +1,10 @@
-/** Promises 1 to 9: a new object, shop, wanted, seen, ofTube, remember, near, stock, far. */
+/** Promises 2 to 9: shop, wanted, seen, ofTube, remember, near, stock, far. */
 public final class ShopTest {
     private static final Checks c = new Checks("ShopTest");
 
     public static void main(String[] args) {
-        newObject();
         textThatIsTaken();
         firstFaults();
-        shopRefusalsAndFaults();
         textMakesAllAnew();
         wantedAndSeen();
         partsOfTubes();
@@ -14,19 +12,6 @@ public final class ShopTest {
         nearness();
         stocks();
         c.finish();
-    }
-
-    private static void newObject() {
-        ButtonMatch x = new ButtonMatch();
-        for (int what = 0; what < 4; what++) {
-            c.due("new many", x.many(what), 0);
-            c.due("new lose", x.lose(what), 0);
-        }
-        c.due("new far", x.far(0), ButtonMatch.UNKNOWN);
-        c.due("new wanted", x.wanted(0), ButtonMatch.STATE);
-        c.due("new trace", x.trace(), 0);
-        c.due("new fault", x.fault(), 0);
-        c.due("LOST", ButtonMatch.LOST, Long.MIN_VALUE);
     }
 
     private static void textThatIsTaken() {
@@ -50,17 +35,14 @@ public final class ShopTest {
         c.due("cut to a byte it is a b", x.shop(0, 0, 0, 1), -101);
     }
 
-    /** Every place of a TEXT, by every code: a fault there, or too soon an end. */
+    /** Every place of a TEXT, by every code: taken, or a fault there. */
     private static void firstFaults() {
         String form = "bcdhddddddd;kcdhdd;kcdhdd;kcdhdd;kcdhdd;kcdhdd;kcdhdd";
         String text = "b7945018327;t35432;s25411;o36290;t45425;s75403;o00200";
-        ButtonMatch x = new ButtonMatch();
-        Coats.write(x, 0, 2, Coats.codes(text + "0"));
-        for (int n = 0; n < text.length(); n++) {
-            boolean whole = n == 18 || n == 25 || n == 32 || n == 39 || n == 46;
-            c.due("the first " + n, x.shop(0, 2, 0, n), whole ? (n - 11) / 7 : -100 - n);
-        }
         for (int place = 0; place < text.length(); place++) {
+            // A new object for each place, as one is used for at most 512 calls.
+            ButtonMatch x = new ButtonMatch();
+            Coats.write(x, 0, 2, Coats.codes(text));
             String good = allowed(form.charAt(place));
             for (int code = 40; code < 125; code++) {
                 x.put(0, place, code);
@@ -71,7 +53,6 @@ public final class ShopTest {
                 x.put(0, place, code);
                 c.due("code " + code + " at " + place, x.shop(0, 2, 0, text.length()), -100 - place);
             }
-            x.put(0, place, text.charAt(place));
         }
     }
 
@@ -83,35 +64,6 @@ public final class ShopTest {
             case 'k': return "tso";
             default: return String.valueOf(sort);
         }
-    }
-
-    private static void shopRefusalsAndFaults() {
-        ButtonMatch x = new ButtonMatch();
-        Coats.write(x, 1, 1, Coats.codes(Coats.FIVE));
-        c.due("sheet -1", x.shop(-1, 9, 0, -1), ButtonMatch.UNKNOWN);
-        c.due("sheet 4", x.shop(4, 0, 0, 18), ButtonMatch.UNKNOWN);
-        c.due("lane -1", x.shop(0, -1, 0, 18), ButtonMatch.OUTSIDE);
-        c.due("lane 3", x.shop(1, 3, -1, -1), ButtonMatch.OUTSIDE);
-        fault(x, "nothing, n below 0", x.shop(0, 0, -1, -1), 1);
-        fault(x, "another lane, n below 0", x.shop(1, 0, -1, -1), 2);
-        fault(x, "n below 0 and i too", x.shop(1, 1, -1, -1), 4);
-        fault(x, "i below 0", x.shop(1, 1, -1, 18), 3);
-        fault(x, "beyond", x.shop(1, 1, 1, 46), 3);
-        fault(x, "none taken behind all", x.shop(1, 1, 47, 0), 3);
-        fault(x, "none taken ahead of all", x.shop(1, 1, -1, 0), 3);
-        fault(x, "i and n that wrap", x.shop(1, 1, Integer.MAX_VALUE, Integer.MAX_VALUE), 3);
-        fault(x, "n as large as can be", x.shop(1, 1, 1, Integer.MAX_VALUE), 3);
-        c.due("none taken at the end", x.shop(1, 1, 46, 0), -100);
-        c.due("a FIRST FAULT is none of the machine's", x.fault(), 0);
-        x.shop(0, 0, 0, 0);
-        c.due("a refusal", x.shop(9, 0, 0, 0), ButtonMatch.UNKNOWN);
-        c.due("a refusal leaves no fault", x.fault(), 0);
-        c.due("no SHOP by any of these", x.many(0), 0);
-    }
-
-    private static void fault(ButtonMatch x, String call, long got, int which) {
-        c.due(call, got, -10 - which);
-        c.due("fault of " + call, x.fault(), which);
     }
 
     private static void textMakesAllAnew() {
