@@ -6,22 +6,17 @@ import java.util.BitSet;
 import java.util.LinkedHashMap;
 import java.util.List;
 import java.util.Map;
-import java.util.regex.Matcher;
-import java.util.regex.Pattern;
 
-/** The document's own words: where a quote stands, and which words that name a boundary no quote has met. */
+/** The document's own words: where a quote stands, and which words of the promises and terms no quote has met. */
 final class Document {
     static final Path PATH = Path.of("../shared/DOC.md");
     static final int PROMISES = 34;
 
-    private static final String TERMS = "Terms", AHEAD = "What it is";
-    private static final Pattern IN_A_PROMISE = Pattern.compile("UNKNOWN|OUTSIDE|STATE|FULL|NONE|LOST|CAST|NULL|INDEX"
-            + "|SIZE(?=[.:])|\\.\\.|fewer|never|0: |-100 less|as they were|as it was|nothing|ahead of any"
-            + "|without a SHOP");
-    private static final Pattern IN_THE_TERMS = Pattern.compile("UNKNOWN|OUTSIDE|STATE|FULL|NULL|CAST|INDEX|SIZE \\(a"
-            + "|NONE|LOST|\\.\\.|at most|at least|at first|no more|too soon|seventh|wraps|is cut|or more|of several"
-            + "|but once|come again|not put back|fewest|has them|above 0|changes? nothing|anew|in the order|below 0"
-            + "|2 or 4|1 to 6|first code|the first one|that is left|as bits");
+    private static final String TERMS = "Terms", AHEAD = "What it is", FACE = "The public face";
+    /** What stands in the terms without being a sentence: the numbers of their parts, and the marks of a block. */
+    private static final String MARKS = "==== \\d|```(text)?";
+    /** Behind this the terms tell only under which heading a call stands in the interface. */
+    private static final String HEADINGS = "Ahead of the calls `shop`";
 
     private final Map<String, String> parts = new LinkedHashMap<>();
     private final Map<String, BitSet> quoted = new LinkedHashMap<>();
@@ -37,6 +32,16 @@ final class Document {
         }
     }
 
+    /** The lines that the document's interface has, in its order. */
+    static List<String> face() throws IOException {
+        for (String part : Files.readString(PATH).split("\n## ")) {
+            if (part.startsWith(FACE)) {
+                return part.lines().map(String::strip).filter(line -> line.startsWith("public ")).toList();
+            }
+        }
+        return List.of();
+    }
+
     /** Whether the words stand in the promise, in the terms, or ahead of them; they count as quoted from then on. */
     boolean has(int promise, String quote) {
         for (String name : List.of(String.valueOf(promise), TERMS, AHEAD)) {
@@ -49,23 +54,27 @@ final class Document {
         return false;
     }
 
+    /** The words of the promises and of the terms that stand in no quote. */
     List<String> unquoted() {
         List<String> missing = new ArrayList<>();
         for (int promise = 1; promise <= PROMISES; promise++) {
-            addUnquoted(missing, String.valueOf(promise), IN_A_PROMISE);
+            addUnquoted(missing, String.valueOf(promise));
         }
-        addUnquoted(missing, TERMS, IN_THE_TERMS);
+        addUnquoted(missing, TERMS);
         return missing;
     }
 
-    private void addUnquoted(List<String> missing, String name, Pattern boundary) {
+    private void addUnquoted(List<String> missing, String name) {
         String words = parts.getOrDefault(name, "");
-        Matcher m = boundary.matcher(words);
-        while (m.find()) {
-            if (!quoted.get(name).get(m.start())) {
-                int to = Math.min(words.length(), m.end() + 30);
-                missing.add(name + ": .." + words.substring(Math.max(0, m.start() - 30), to) + "..");
+        int end = words.contains(HEADINGS) ? words.indexOf(HEADINGS) : words.length();
+        BitSet met = quoted.getOrDefault(name, new BitSet());
+        for (int from = met.nextClearBit(0); from < end; from = met.nextClearBit(from)) {
+            int to = met.nextSetBit(from) < 0 ? end : Math.min(end, met.nextSetBit(from));
+            String rest = words.substring(from, to).replaceAll(MARKS, "").strip();
+            if (rest.matches(".*[A-Za-z0-9].*")) {
+                missing.add(name + ": .." + rest + "..");
             }
+            from = to;
         }
         if (words.isEmpty()) {
             missing.add(name + " is not in the document");

@@ -26,6 +26,7 @@ public final class FaceTest {
         methods(it);
         others(it);
         source();
+        document();
         c.finish();
     }
 
@@ -72,6 +73,22 @@ public final class FaceTest {
             c.due("static state: " + f.getName(), state ? 1 : 0, 0);
         }
         c.due("constants that are missing", constants.size(), 0);
+    }
+
+    /** FACE is what the document's interface tells, call by call, in its order. */
+    private static void document() throws IOException {
+        if (!Files.exists(Document.PATH)) {
+            System.out.println("FaceTest: " + Document.PATH + " is missing: its face is not looked at");
+            return;
+        }
+        StringBuilder told = new StringBuilder();
+        for (String line : Document.face()) {
+            if (line.matches("public (int|long) .*")) {
+                String types = line.replaceAll("^public |;$", "").replaceAll("(int|long|boolean) \\w+(?=[,)])", "$1");
+                told.append(told.isEmpty() ? "" : ";").append(types.replaceAll("[(), ]+", " ").strip());
+            }
+        }
+        c.same("the document's face", told.toString(), FACE);
     }
 
     /** Comments do not count: only what stands ahead of them in a line, and no line of a block of them. */

@@ -1,9 +1,9 @@
 import java.io.IOException;
 import java.nio.file.Files;
 
-/** The sentences of the document that name a boundary, each with the runs that would fail if it were broken. */
+/** The sentences of the document, each with the runs that would fail if it were broken. */
 final class Sentences {
-    private final Checks checks = new Checks("BoundaryTest");
+    private final Checks checks = new Checks("SentenceTest");
     private final Document document;
     private final boolean[] tested = new boolean[Document.PROMISES + 1];
     private String title = "";
@@ -12,7 +12,7 @@ final class Sentences {
     Sentences() throws IOException {
         document = Files.exists(Document.PATH) ? new Document() : null;
         if (document == null) {
-            System.out.println("BoundaryTest: " + Document.PATH + " is missing: no quote is looked at");
+            System.out.println("SentenceTest: " + Document.PATH + " is missing: no quote is looked at");
         }
     }
 
